@@ -1,0 +1,134 @@
+/** Promises 18 to 20: wouldMiss, safe and firstMiss. */
+public final class WouldBeTest {
+    public static void main(String[] args) {
+        Due due = new Due();
+        wrongPlaces(due);
+        limitsWhenHomed(due);
+        missing(due);
+        hardEnds(due);
+        safeValues(due);
+        safeSteps(due);
+        due.end();
+    }
+
+    private static void all(Due due, StepAxis x, int place, int missed, int safe, int first) {
+        String before = Due.picture(x);
+        int states = x.count(2);
+        due.is("wouldMiss(" + place + ")", x.wouldMiss(place), missed);
+        due.is("safe(" + place + ")", x.safe(place), safe);
+        due.is("firstMiss(" + place + ")", x.firstMiss(place), first);
+        due.holds("nothing changes", Due.picture(x).equals(before) && x.count(2) == states);
+    }
+
+    private static void wrongPlaces(Due due) {
+        StepAxis x = new StepAxis();
+        int invalid = StepAxis.INVALID_ARGUMENT;
+        int[] wrong = {4001, -4001, Integer.MIN_VALUE, Integer.MAX_VALUE};
+        for (int place : wrong) {
+            all(due, x, place, invalid, invalid, invalid);
+        }
+        x.set(5, 0);
+        x.home();
+        for (int place : wrong) {
+            all(due, x, place, invalid, invalid, invalid);
+        }
+    }
+
+    private static void limitsWhenHomed(Due due) {
+        StepAxis x = new StepAxis();
+        int no = StepAxis.NOT_POSSIBLE;
+        x.set(5, 0);
+        all(due, x, 1001, 0, 60, StepAxis.NOT_FOUND);
+        x.home();
+        all(due, x, 1001, no, no, no);
+        all(due, x, -1001, no, no, no);
+        all(due, x, 1000, 0, 60, StepAxis.NOT_FOUND);
+        all(due, x, -1000, 0, 60, StepAxis.NOT_FOUND);
+        x.limits(1, 2);
+        all(due, x, 0, no, no, no);
+        all(due, x, 1, 0, 60, StepAxis.NOT_FOUND);
+        x.load(-3000, 3000, 300);
+        all(due, x, 3, no, no, no);
+    }
+
+    private static void missing(Due due) {
+        StepAxis x = new StepAxis();
+        all(due, x, 0, 0, 60, StepAxis.NOT_FOUND);
+        x.load(3, 5, 101);
+        all(due, x, 2, 0, 60, StepAxis.NOT_FOUND);
+        all(due, x, 3, 1, StepAxis.NOT_FOUND, 2);
+        all(due, x, 8, 6, StepAxis.NOT_FOUND, 2);
+        all(due, x, -8, 0, 60, StepAxis.NOT_FOUND);
+        x.load(-3, -3, 300);
+        all(due, x, -8, 6, StepAxis.NOT_FOUND, -2);
+        x.move(8);
+        due.is("told", x.axis(0), 8);
+        all(due, x, 8, 0, 60, StepAxis.NOT_FOUND);
+        all(due, x, 10, 2, StepAxis.NOT_FOUND, 2);
+        all(due, x, 0, 4, StepAxis.NOT_FOUND, -2);
+    }
+
+    private static void hardEnds(Due due) {
+        StepAxis x = new StepAxis();
+        all(due, x, 3000, 0, 60, StepAxis.NOT_FOUND);
+        all(due, x, 3001, 1, StepAxis.NOT_FOUND, 3000);
+        all(due, x, -3002, 2, StepAxis.NOT_FOUND, -3000);
+        all(due, x, 4000, 1000, StepAxis.NOT_FOUND, 3000);
+    }
+
+    /** A loss of pull of 100 makes the pulls 100, 94, 88, 82, 75, 69. */
+    private static void safeValues(Due due) {
+        int[] pulls = {100, 94, 88, 82, 75, 69};
+        for (int value = 0; value < 5; value++) {
+            StepAxis x = new StepAxis();
+            x.set(4, 100);
+            x.load(-3000, 3000, pulls[value]);
+            due.is("safe(100) at " + pulls[value], x.safe(100), value);
+            due.is("safe(-100) at " + pulls[value], x.safe(-100), value);
+            due.is("a move that goes no faster", x.safe(2 * value + 1), 60);
+            due.is("a move that goes faster by one step", x.safe(2 * value + 3), value);
+            x.set(2, value + 1);
+            due.is("above it", x.safe(100), value);
+            x.set(2, value);
+            due.is("as it is now", x.safe(100), value);
+            due.is("wouldMiss with it", x.wouldMiss(100), 0);
+            if (value > 0) {
+                x.set(2, value - 1);
+                due.is("not above what it is now", x.safe(100), value - 1);
+            }
+            due.is("the setting stays", x.count(12), value > 0 ? value - 1 : 0);
+        }
+        StepAxis x = new StepAxis();
+        x.set(4, 100);
+        x.load(-3000, 3000, 101);
+        due.is("not even with 0", x.safe(100), StepAxis.NOT_FOUND);
+        due.is("no steps", x.safe(0), 60);
+        x.dropLoad(0);
+        x.set(2, 200);
+        due.is("the top is 14", x.top(), 14);
+        due.is("as the setting is, above the top", x.safe(100), 200);
+        x.set(1, 1000);
+        due.is("a ramp of one interval", x.safe(100), 200);
+        x.load(1, 1, 100);
+        due.is("a ramp of one interval", x.safe(100), 200);
+    }
+
+    private static void safeSteps(Due due) {
+        StepAxis x = new StepAxis();
+        x.set(4, 100);
+        x.load(50, 50, 80);
+        due.is("a load on the way", x.safe(100), 3);
+        x.load(60, 60, 90);
+        due.is("a heavier one behind it", x.safe(100), 1);
+        x.load(55, 55, 85);
+        due.is("a lighter one between them", x.safe(100), 1);
+        due.is("not reached", x.safe(49), 60);
+        due.is("reached at rest", x.safe(50), 60);
+        due.is("reached with index 1", x.safe(51), 60);
+        due.is("reached with index 3", x.safe(53), 60);
+        due.is("reached with index 4", x.safe(54), 3);
+        due.is("top", x.top(), 14);
+        due.is("wouldMiss", x.wouldMiss(54), 1);
+        due.is("firstMiss", x.firstMiss(54), 49);
+    }
+}
