@@ -584,7 +584,7 @@ public final class StepAxis {
         /** A move goes down as it went up; with an odd number of steps one stands in the middle. */
         int time(int steps) {
             int half = steps / 2;
-            int rising = Math.min(half, last + 1);
+            int rising = Math.min(half, last);
             int up = sum(rising - 1) + (half - rising) * interval(last);
             int middle = steps % 2 == 0 ? 0 : interval(Math.min(half, last));
             return 2 * up + middle;
@@ -613,7 +613,7 @@ public final class StepAxis {
             if (refused != 0) {
                 return refused;
             }
-            rampOf(state);
+            ramp.build(state);
             int from = state.told;
             int missedBefore = state.missed;
             int distance = Math.abs(target - from);
@@ -645,7 +645,7 @@ public final class StepAxis {
             if (refused != 0) {
                 return refused;
             }
-            rampOf(state);
+            ramp.build(state);
             int distance = Math.abs(target - state.told);
             int direction = directionTo(state.told, target);
             for (int i = 0; i < distance; i++) {
@@ -667,7 +667,7 @@ public final class StepAxis {
             if (refused != 0) {
                 return refused;
             }
-            rampOf(state);
+            ramp.build(state);
             int distance = Math.abs(target - state.told);
             int direction = directionTo(state.told, target);
             int allowed = ramp.last;
@@ -694,7 +694,7 @@ public final class StepAxis {
 
         /** Failing leaves the state somewhere on the way: it has to be one that is tried only. */
         int seekSwitch(State state) {
-            rampOf(state);
+            ramp.build(state);
             int stepsBefore = state.steps;
             if (!state.closed && !runDown(state)) {
                 return NOT_POSSIBLE;

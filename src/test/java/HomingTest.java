@@ -125,6 +125,16 @@ public final class HomingTest {
     private static void missedWhileHoming(Due due) {
         StepAxis x = new StepAxis();
         x.set(5, -5);
+        x.set(4, 100);
+        x.set(7, 0);
+        x.load(-9, 9, 100);
+        due.is("all with the pull at rest", x.home(), 5 + 4 + 4);
+        due.is("none is missed", x.axis(6), 0);
+        x.set(5, -9);
+        due.is("and so again", x.home(), 1 + 5);
+        due.is("none is missed", x.axis(6), 0);
+        x = new StepAxis();
+        x.set(5, -5);
         x.set(7, 3);
         x.set(4, 100);
         x.load(-7, -7, 95);

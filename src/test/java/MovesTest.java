@@ -10,6 +10,7 @@ public final class MovesTest {
         movesBySteps(due);
         movesOfNoSteps(due);
         keptMoves(due);
+        greatestIndexes(due);
         wrongMoveOf(due);
         speeds(due);
         due.end();
@@ -206,6 +207,22 @@ public final class MovesTest {
         due.is("no second one", x.moveOf(1, 0), StepAxis.NOT_FOUND);
     }
 
+    private static void greatestIndexes(Due due) {
+        int[] want = {0, 0, 0, 1, 1, 2, 2, 3, 3, 4, 4, 5, 5, 6, 6, 7, 7, 8, 8, 9, 9, 10, 10, 11, 11,
+            12, 12, 13, 13, 14, 14, 14, 14};
+        StepAxis x = new StepAxis();
+        for (int steps = 0; steps < want.length; steps++) {
+            x.moveBy(steps);
+            due.is("greatest index of " + steps + " steps", x.moveOf(0, 4), want[steps]);
+            x.moveBy(-steps);
+            due.is("greatest index of " + steps + " steps down", x.moveOf(0, 4), want[steps]);
+            due.is("time of " + steps + " steps down", x.moveOf(0, 3), x.timeOf(steps));
+        }
+        x.set(2, 1);
+        x.moveBy(9);
+        due.is("greatest index with a top of 1", x.moveOf(0, 4), 1);
+    }
+
     private static void wrongMoveOf(Due due) {
         StepAxis x = new StepAxis();
         x.move(1);
@@ -240,6 +257,12 @@ public final class MovesTest {
         x.set(0, 128);
         x.move(5);
         due.is("a power of two", x.speedBits(0), Float.floatToIntBits(1f / 128f));
+        for (int interval = 100; interval < 300; interval++) {
+            x.set(0, interval);
+            x.moveBy(interval % 2 == 0 ? 7 : -7);
+            due.is("one over " + interval, x.speedBits(0),
+                Float.floatToIntBits(7f / (7f * interval)));
+        }
         x.set(0, 5000);
         x.move(6);
         due.is("the slowest one", x.speedBits(0), Float.floatToIntBits(1f / 5000f));

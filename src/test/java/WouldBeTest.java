@@ -8,6 +8,8 @@ public final class WouldBeTest {
         hardEnds(due);
         safeValues(due);
         safeSteps(due);
+        firstSteps(due);
+        theRampAsItIs(due);
         due.end();
     }
 
@@ -111,6 +113,48 @@ public final class WouldBeTest {
         due.is("a ramp of one interval", x.safe(100), 200);
         x.load(1, 1, 100);
         due.is("a ramp of one interval", x.safe(100), 200);
+    }
+
+    private static void firstSteps(Due due) {
+        StepAxis x = new StepAxis();
+        x.load(1, 1, 101);
+        all(due, x, 9, 9, StepAxis.NOT_FOUND, 0);
+        all(due, x, -9, 0, 60, StepAxis.NOT_FOUND);
+        x.load(-1, -1, 100);
+        all(due, x, -9, 0, 60, StepAxis.NOT_FOUND);
+        x.load(-9, -9, 100);
+        all(due, x, -9, 0, 60, StepAxis.NOT_FOUND);
+        all(due, x, -10, 0, 60, StepAxis.NOT_FOUND);
+        x.load(-9, -9, 1);
+        all(due, x, -9, 1, StepAxis.NOT_FOUND, -8);
+    }
+
+    /** Each call is the first one behind a setting that makes another ramp. */
+    private static void theRampAsItIs(Due due) {
+        StepAxis x = new StepAxis();
+        x.load(3, 3, 90);
+        due.is("firstMiss", x.firstMiss(7), StepAxis.NOT_FOUND);
+        x.set(4, 100);
+        due.is("firstMiss", x.firstMiss(7), 2);
+        x.set(4, 0);
+        due.is("safe", x.safe(7), 60);
+        x.set(4, 100);
+        due.is("safe", x.safe(7), 1);
+        x.set(4, 0);
+        due.is("wouldMiss", x.wouldMiss(7), 0);
+        x.set(4, 100);
+        due.is("wouldMiss", x.wouldMiss(7), 3);
+        x.set(0, 500);
+        due.is("timeOf", x.timeOf(2), 1000);
+        x.set(0, 400);
+        due.is("ramp", x.ramp(0, 3), 400);
+        x.set(1, 400);
+        due.is("top", x.top(), 0);
+        x.set(1, 200);
+        due.is("move", x.move(7), 3);
+        x.set(5, 0);
+        x.set(4, 0);
+        due.is("home", x.home(), 4 + 2 + 6 + 4);
     }
 
     private static void safeSteps(Due due) {
