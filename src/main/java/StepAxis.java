@@ -13,7 +13,6 @@ public final class StepAxis {
     public static final int NOT_FOUND = -1000004;
 
     private static final int HARD_END = 3000;
-    private static final int HARD_END_WEIGHT = 1000000;
     private static final int FARTHEST_PLACE = 4000;
     private static final int FARTHEST_LIMIT = 2000;
     private static final int FIRST_LIMIT = 1000;
@@ -264,6 +263,10 @@ public final class StepAxis {
         return value >= least && value <= greatest;
     }
 
+    private static boolean isBeyondEnd(int place) {
+        return place < -HARD_END || place > HARD_END;
+    }
+
     /** The loads along the way. */
     private static final class Loads {
         private final int[] from = new int[MOST_LOADS];
@@ -317,11 +320,7 @@ public final class StepAxis {
             return what == 1 ? to[index] : weight[index];
         }
 
-        /** A hard end is a weight that no pull moves. */
         int weightAt(int place) {
-            if (place < -HARD_END || place > HARD_END) {
-                return HARD_END_WEIGHT;
-            }
             int sum = 0;
             for (int i = 0; i < size; i++) {
                 if (place >= from[i] && place <= to[i]) {
@@ -440,12 +439,14 @@ public final class StepAxis {
             return within(told, lower, upper) ? 1 : 0;
         }
 
+        /** What holds a step back is the load where it begins, but the hard end where it goes. */
         void takeStep(int direction, int interval, int pull) {
+            int next = place + direction;
             told += direction;
-            if (loads.weightAt(place + direction) > pull) {
+            if (isBeyondEnd(next) || loads.weightAt(place) > pull) {
                 missed++;
             } else {
-                place += direction;
+                place = next;
             }
             steps++;
             time = (time + interval) % TIME_ROUND;
@@ -651,7 +652,7 @@ public final class StepAxis {
             for (int i = 0; i < distance; i++) {
                 int place = state.place + direction * i;
                 int pull = ramp.pull(ramp.indexOf(i, distance));
-                if (state.loads.weightAt(place + direction) > pull) {
+                if (isBeyondEnd(place + direction) || state.loads.weightAt(place) > pull) {
                     return place;
                 }
             }
@@ -672,7 +673,11 @@ public final class StepAxis {
             int direction = directionTo(state.told, target);
             int allowed = ramp.last;
             for (int i = 0; i < distance; i++) {
-                int weight = state.loads.weightAt(state.place + direction * (i + 1));
+                int place = state.place + direction * i;
+                if (isBeyondEnd(place + direction)) {
+                    return NOT_FOUND;
+                }
+                int weight = state.loads.weightAt(place);
                 int index = Math.min(allowed, ramp.indexOf(i, distance));
                 if (weight > ramp.pull(index)) {
                     allowed = greatestPulling(weight, index - 1);

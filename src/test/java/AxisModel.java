@@ -103,13 +103,13 @@ final class AxisModel {
     /** Answers true if the step is missed. */
     private static boolean step(Body b, int direction, int index, List<int[]> ramp) {
         b.told += direction;
-        int ahead = b.real + direction;
-        boolean misses = ahead < -3000 || ahead > 3000
-            || loadAt(b, ahead) > pull(b.settings, index);
+        int next = b.real + direction;
+        boolean misses = next < -3000 || next > 3000
+            || loadAt(b, b.real) > pull(b.settings, index);
         if (misses) {
             b.missed++;
         } else {
-            b.real = ahead;
+            b.real = next;
         }
         b.steps++;
         b.time += ramp.get(index)[0];

@@ -137,7 +137,7 @@ public final class HomingTest {
         x.set(5, -5);
         x.set(7, 3);
         x.set(4, 100);
-        x.load(-7, -7, 95);
+        x.load(-6, -6, 95);
         due.is("home()", x.home(), 5 + 3 + 6 + 4);
         axis(due, x, 0, -5, 0, 1, 1, 18, 1);
         x = new StepAxis();
@@ -210,21 +210,22 @@ public final class HomingTest {
     private static void slips(Due due) {
         StepAxis x = new StepAxis();
         x.load(3, 3, 300);
-        due.is("move(5)", x.move(5), 3);
-        due.is("slip before homing", x.axis(2), 3);
+        due.is("move(5)", x.move(5), 2);
+        due.is("slip before homing", x.axis(2), 2);
+        x.dropLoad(0);
         x.move(-5);
-        due.is("slip stays", x.axis(2), 3);
+        due.is("slip stays", x.axis(2), 2);
         x.home();
         due.is("slip is 0", x.axis(2), 0);
         due.is("true", x.axis(1), -400);
+        x.load(2, 2, 300);
         due.is("move(410)", x.move(410), 8);
         due.is("told", x.axis(0), 410);
         due.is("true", x.axis(1), 2);
         due.is("slip", x.axis(2), 8);
-        x.load(0, 1, 300);
         due.is("down", x.move(400), 10);
         due.is("slip", x.axis(2), -2);
-        due.is("all missed", x.axis(6), 3 + 8 + 10);
+        due.is("all missed", x.axis(6), 2 + 8 + 10);
     }
 
     private static void axisTime(Due due) {

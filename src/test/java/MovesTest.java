@@ -64,12 +64,18 @@ public final class MovesTest {
         due.is("back", x.move(3000), 0);
         axis(due, x, 3000, 2999, 3002, 1);
         due.is("a load at the end", x.load(3000, 3000, 300), 0);
-        due.is("is ahead", x.move(3001), 1);
-        due.is("true", x.axis(1), 2999);
-        due.is("down to the lower end", x.move(-2998), 0);
-        axis(due, x, -2998, -3000, 9002, 2);
-        due.is("beyond the lower end", x.move(-3000), 2);
-        axis(due, x, -3000, -3000, 9004, 4);
+        due.is("holds no step onto it", x.move(3001), 0);
+        axis(due, x, 3001, 3000, 3003, 1);
+        due.is("but each one from it: beyond the end", x.move(3002), 1);
+        due.is("and back", x.move(3001), 1);
+        axis(due, x, 3001, 3000, 3005, 3);
+        x.dropLoad(0);
+        due.is("down to the lower end", x.move(-2999), 0);
+        axis(due, x, -2999, -3000, 9005, 3);
+        due.is("beyond the lower end", x.move(-3001), 2);
+        axis(due, x, -3001, -3000, 9007, 5);
+        due.is("and back", x.move(-2999), 0);
+        axis(due, x, -2999, -2998, 9009, 5);
     }
 
     /** A loss of pull of 100 makes the pulls 100, 94, 88, 82: a load tells the index of a step. */
@@ -89,14 +95,15 @@ public final class MovesTest {
         }
         StepAxis x = new StepAxis();
         x.set(4, 100);
-        x.load(4, 4, 83);
+        x.load(3, 3, 83);
         due.is("a step is missed, the next one pulls more", x.move(7), 1);
         axis(due, x, 7, 6, 7, 1);
-        x.load(-1, 6, 200);
-        due.is("the load where it stands does not count, the one ahead does", x.move(6), 1);
-        due.is("true", x.axis(1), 6);
-        due.is("upwards it is free", x.move(7), 0);
-        due.is("true", x.axis(1), 7);
+        x.load(-1, 5, 200);
+        due.is("the load where a step goes does not count", x.move(6), 0);
+        due.is("true", x.axis(1), 5);
+        due.is("the one where it begins does", x.move(5), 1);
+        due.is("in both directions", x.move(6), 1);
+        due.is("true", x.axis(1), 5);
     }
 
     private static void pullsOfMove(Due due, int direction, int greatest, int[] pulls) {
@@ -105,7 +112,7 @@ public final class MovesTest {
                 StepAxis x = new StepAxis();
                 x.set(4, 100);
                 x.set(2, greatest);
-                int place = direction * (i + 1);
+                int place = direction * i;
                 x.load(place, place, pulls[i] + more);
                 int missed = x.wouldMiss(direction * pulls.length);
                 due.holds("step " + i + " of " + pulls.length + " pulls " + pulls[i],
@@ -173,7 +180,7 @@ public final class MovesTest {
 
     private static void keptMoves(Due due) {
         StepAxis x = new StepAxis();
-        x.load(9, 9, 300);
+        x.load(8, 8, 300);
         int[] places = {1, 3, -3, 9, 9, 50};
         for (int place : places) {
             x.move(place);
@@ -188,7 +195,8 @@ public final class MovesTest {
         }
         due.is("no sixth one", x.moveOf(5, 0), StepAxis.NOT_FOUND);
         due.is("five are kept", x.count(1), 5);
-        x.home();
+        x.dropLoad(0);
+        due.holds("home()", x.home() > 0);
         due.is("homing is none", x.moveOf(0, 1), 50);
         due.is("homing keeps them", x.count(1), 5);
         due.is("forget()", x.forget(), 5);

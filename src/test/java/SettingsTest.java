@@ -69,9 +69,9 @@ public final class SettingsTest {
         x = new StepAxis();
         x.load(4, 4, 300);
         x.move(7);
-        due.is("the true place", x.axis(1), 3);
+        due.is("the true place", x.axis(1), 4);
         due.is("the told place counts", x.limits(7, 7), 1);
-        due.is("and not the true one", x.limits(3, 3), 0);
+        due.is("and not the true one", x.limits(4, 4), 0);
     }
 
     private static void wrongLimits(Due due) {

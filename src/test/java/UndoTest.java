@@ -14,7 +14,8 @@ public final class UndoTest {
     private static StepAxis prepared() {
         StepAxis x = new StepAxis();
         x.set(5, -3);
-        x.load(10, 20, 100);
+        x.set(7, 3);
+        x.load(10, 20, 97);
         x.load(30, 40, 50);
         x.move(50);
         x.home();

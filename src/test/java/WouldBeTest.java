@@ -9,6 +9,7 @@ public final class WouldBeTest {
         safeValues(due);
         safeSteps(due);
         firstSteps(due);
+        theLoadWhereAStepGoes(due);
         theRampAsItIs(due);
         due.end();
     }
@@ -58,16 +59,19 @@ public final class WouldBeTest {
         all(due, x, 0, 0, 60, StepAxis.NOT_FOUND);
         x.load(3, 5, 101);
         all(due, x, 2, 0, 60, StepAxis.NOT_FOUND);
-        all(due, x, 3, 1, StepAxis.NOT_FOUND, 2);
-        all(due, x, 8, 6, StepAxis.NOT_FOUND, 2);
+        all(due, x, 3, 0, 60, StepAxis.NOT_FOUND);
+        all(due, x, 4, 1, StepAxis.NOT_FOUND, 3);
+        all(due, x, 8, 5, StepAxis.NOT_FOUND, 3);
         all(due, x, -8, 0, 60, StepAxis.NOT_FOUND);
         x.load(-3, -3, 300);
-        all(due, x, -8, 6, StepAxis.NOT_FOUND, -2);
+        all(due, x, -3, 0, 60, StepAxis.NOT_FOUND);
+        all(due, x, -8, 5, StepAxis.NOT_FOUND, -3);
         x.move(8);
         due.is("told", x.axis(0), 8);
         all(due, x, 8, 0, 60, StepAxis.NOT_FOUND);
-        all(due, x, 10, 2, StepAxis.NOT_FOUND, 2);
-        all(due, x, 0, 4, StepAxis.NOT_FOUND, -2);
+        due.is("true", x.axis(1), 3);
+        all(due, x, 10, 2, StepAxis.NOT_FOUND, 3);
+        all(due, x, 0, 8, StepAxis.NOT_FOUND, 3);
     }
 
     private static void hardEnds(Due due) {
@@ -117,16 +121,34 @@ public final class WouldBeTest {
 
     private static void firstSteps(Due due) {
         StepAxis x = new StepAxis();
-        x.load(1, 1, 101);
-        all(due, x, 9, 9, StepAxis.NOT_FOUND, 0);
+        x.load(0, 0, 100);
+        all(due, x, 9, 0, 60, StepAxis.NOT_FOUND);
         all(due, x, -9, 0, 60, StepAxis.NOT_FOUND);
-        x.load(-1, -1, 100);
-        all(due, x, -9, 0, 60, StepAxis.NOT_FOUND);
-        x.load(-9, -9, 100);
+        x.load(-8, -8, 100);
         all(due, x, -9, 0, 60, StepAxis.NOT_FOUND);
         all(due, x, -10, 0, 60, StepAxis.NOT_FOUND);
-        x.load(-9, -9, 1);
+        x.load(-8, -8, 1);
+        all(due, x, -8, 0, 60, StepAxis.NOT_FOUND);
         all(due, x, -9, 1, StepAxis.NOT_FOUND, -8);
+        x.load(0, 0, 1);
+        all(due, x, 9, 9, StepAxis.NOT_FOUND, 0);
+        all(due, x, -9, 9, StepAxis.NOT_FOUND, 0);
+        all(due, x, 0, 0, 60, StepAxis.NOT_FOUND);
+    }
+
+    /** The run of issue 5; a step from place 1 is missed, one to it is not. */
+    private static void theLoadWhereAStepGoes(Due due) {
+        StepAxis x = new StepAxis();
+        x.load(1, 1, 3);
+        x.set(3, 1);
+        all(due, x, 1, 0, 60, StepAxis.NOT_FOUND);
+        all(due, x, 2, 1, StepAxis.NOT_FOUND, 1);
+        x = new StepAxis();
+        x.load(3000, 3000, 300);
+        all(due, x, 3000, 0, 60, StepAxis.NOT_FOUND);
+        all(due, x, 3001, 1, StepAxis.NOT_FOUND, 3000);
+        x.move(3000);
+        all(due, x, 2990, 10, StepAxis.NOT_FOUND, 3000);
     }
 
     /** Each call is the first one behind a setting that makes another ramp. */
@@ -135,7 +157,7 @@ public final class WouldBeTest {
         x.load(3, 3, 90);
         due.is("firstMiss", x.firstMiss(7), StepAxis.NOT_FOUND);
         x.set(4, 100);
-        due.is("firstMiss", x.firstMiss(7), 2);
+        due.is("firstMiss", x.firstMiss(7), 3);
         x.set(4, 0);
         due.is("safe", x.safe(7), 60);
         x.set(4, 100);
@@ -143,7 +165,7 @@ public final class WouldBeTest {
         x.set(4, 0);
         due.is("wouldMiss", x.wouldMiss(7), 0);
         x.set(4, 100);
-        due.is("wouldMiss", x.wouldMiss(7), 3);
+        due.is("wouldMiss", x.wouldMiss(7), 2);
         x.set(0, 500);
         due.is("timeOf", x.timeOf(2), 1000);
         x.set(0, 400);
@@ -151,10 +173,10 @@ public final class WouldBeTest {
         x.set(1, 400);
         due.is("top", x.top(), 0);
         x.set(1, 200);
-        due.is("move", x.move(7), 3);
+        due.is("move", x.move(7), 2);
         x.set(5, 0);
         x.set(4, 0);
-        due.is("home", x.home(), 4 + 2 + 6 + 4);
+        due.is("home", x.home(), 5 + 2 + 6 + 4);
     }
 
     private static void safeSteps(Due due) {
@@ -166,13 +188,13 @@ public final class WouldBeTest {
         due.is("a heavier one behind it", x.safe(100), 1);
         x.load(55, 55, 85);
         due.is("a lighter one between them", x.safe(100), 1);
-        due.is("not reached", x.safe(49), 60);
-        due.is("reached at rest", x.safe(50), 60);
-        due.is("reached with index 1", x.safe(51), 60);
-        due.is("reached with index 3", x.safe(53), 60);
-        due.is("reached with index 4", x.safe(54), 3);
+        due.is("not begun", x.safe(50), 60);
+        due.is("left with index 0", x.safe(51), 60);
+        due.is("left with index 1", x.safe(52), 60);
+        due.is("left with index 3", x.safe(54), 60);
+        due.is("left with index 4", x.safe(55), 3);
         due.is("top", x.top(), 14);
-        due.is("wouldMiss", x.wouldMiss(54), 1);
-        due.is("firstMiss", x.firstMiss(54), 49);
+        due.is("wouldMiss", x.wouldMiss(55), 1);
+        due.is("firstMiss", x.firstMiss(55), 50);
     }
 }
