@@ -10,9 +10,14 @@ public final class HomingTest {
         changesLeaveTheSwitch(due);
         missedWhileHoming(due);
         longParts(due);
+        fourThousand(due);
+        switchAtItsEnds(due);
+        greatestIndexOfHoming(due);
+        homingIsNotBound(due);
         failing(due);
         slips(due);
         axisTime(due);
+        timeGoesRound(due);
         wrongArguments(due);
         due.end();
     }
@@ -177,6 +182,109 @@ public final class HomingTest {
         due.is("true", x.axis(1), -2799);
     }
 
+    /** Each part with 3999 and 4000 steps, and with 4001, behind which all is as before. */
+    private static void fourThousand(Due due) {
+        for (int steps = 3999; steps <= 4001; steps++) {
+            StepAxis x = new StepAxis();
+            x.set(7, 0);
+            x.set(6, 0);
+            x.set(5, -2900);
+            x.move(steps - 2900);
+            homes(due, x, "part 1, " + steps, steps <= 4000 ? steps + 2 : StepAxis.NOT_POSSIBLE);
+            x = new StepAxis();
+            x.set(6, 0);
+            x.move(-3000);
+            x.set(5, steps - 3001);
+            homes(due, x, "part 2, " + steps, steps <= 4000 ? steps + 1 : StepAxis.NOT_POSSIBLE);
+            x = new StepAxis();
+            x.set(6, 0);
+            x.set(5, 1200);
+            x.home();
+            x.set(5, 1201 - steps);
+            homes(due, x, "part 3, " + steps, steps <= 4000 ? steps + 1 : StepAxis.NOT_POSSIBLE);
+        }
+        StepAxis x = new StepAxis();
+        x.set(5, -2900);
+        x.move(1100);
+        homes(due, x, "part 1, the slowing steps behind its 4000", 4000 + 14 + 18 + 4);
+    }
+
+    private static void homes(Due due, StepAxis x, String call, int want) {
+        String before = Due.picture(x);
+        int states = x.count(2);
+        int stepsBefore = x.axis(5);
+        due.is("home(), " + call, x.home(), want);
+        if (want < 0) {
+            due.holds("nothing changed", Due.picture(x).equals(before) && x.count(2) == states);
+        } else {
+            axis(due, x, 0, x.count(15), 0, 1, 1, stepsBefore + want);
+            due.is("a change", x.count(2), Math.min(4, states + 1));
+        }
+    }
+
+    /** The greatest and the least place of the switch, with the least and the greatest play. */
+    private static void switchAtItsEnds(Due due) {
+        StepAxis x = new StepAxis();
+        x.set(7, 0);
+        x.set(5, 2900);
+        x.set(6, 50);
+        homes(due, x, "from below the greatest place", 1 + 2952 + 51);
+        x.move(50);
+        due.is("at the play's end it stays", x.axis(4), 1);
+        x.move(51);
+        due.is("and opens one beyond", x.axis(4), 0);
+        x.move(1);
+        due.is("one above the place it stays", x.axis(4), 0);
+        x.move(0);
+        due.is("and closes at it", x.axis(4), 1);
+        x = new StepAxis();
+        x.set(7, 0);
+        x.set(5, -2900);
+        x.set(6, 0);
+        homes(due, x, "to the least place", 2900 + 1 + 1);
+        homes(due, x, "to it again", 1 + 1);
+        x.move(1);
+        due.is("one above, without play", x.axis(4), 0);
+        x.move(0);
+        due.is("at it", x.axis(4), 1);
+        x.move(-101);
+        due.is("beyond the hard end", x.axis(4), 1);
+    }
+
+    /** "Up to the least one of setting 7 and the top": one below the top, the top, one above. */
+    private static void greatestIndexOfHoming(Due due) {
+        int[][] want = {{0, 400 + 4 + 4}, {1, 400 + 1 + 5 + 4}, {13, 400 + 13 + 17 + 4},
+            {14, 400 + 14 + 18 + 4}, {15, 400 + 14 + 18 + 4}, {200, 400 + 14 + 18 + 4}};
+        for (int[] w : want) {
+            StepAxis x = new StepAxis();
+            x.set(7, w[0]);
+            homes(due, x, "setting 7 at " + w[0], w[1]);
+        }
+        for (int steps = 1; steps <= 5; steps++) {
+            StepAxis x = new StepAxis();
+            x.set(7, 3);
+            x.set(5, -steps);
+            int behind = Math.min(steps - 1, 3);
+            homes(due, x, "closed behind step " + steps, steps + behind + behind + 4 + 4);
+        }
+    }
+
+    /** Neither the limits nor the farthest told place of moves bind the steps of homing. */
+    private static void homingIsNotBound(Due due) {
+        StepAxis x = new StepAxis();
+        x.load(0, 0, 300);
+        x.move(-4000);
+        due.is("true", x.axis(1), 0);
+        x.dropLoad(0);
+        homes(due, x, "from -4000 downwards", 436);
+        x.limits(5, 5);
+        homes(due, x, "to a place beyond the limits", 8);
+        due.is("told", x.axis(0), 0);
+        due.is("where no move is possible", x.move(0), StepAxis.NOT_POSSIBLE);
+        due.is("by no steps neither", x.moveBy(0), StepAxis.NOT_POSSIBLE);
+        due.is("but to within", x.move(5), 0);
+    }
+
     private static void failing(Due due) {
         StepAxis x = new StepAxis();
         x.load(-3, -3, 300);
@@ -249,6 +357,28 @@ public final class HomingTest {
         int steps = x.home();
         due.is("homing takes time, too", x.axis(7), (before + steps * 4999) % 1000000);
         due.is("steps", x.axis(5), 8200 + steps);
+    }
+
+    /** "Modulo 1000000": 999999, then one round more, by moves and by homing. */
+    private static void timeGoesRound(Due due) {
+        StepAxis x = new StepAxis();
+        x.set(2, 0);
+        x.set(0, 999);
+        x.moveBy(1);
+        x.set(0, 4995);
+        x.moveBy(200);
+        due.is("the greatest time", x.axis(7), 999999);
+        due.is("no step", x.moveBy(0), 0);
+        due.is("stays there", x.axis(7), 999999);
+        x.set(0, 100);
+        x.moveBy(-1);
+        due.is("goes round", x.axis(7), 99);
+        x.undo();
+        due.is("and back", x.axis(7), 999999);
+        x.set(5, 200);
+        x.set(6, 0);
+        due.is("home()", x.home(), 1 + 1 + 1);
+        due.is("homing goes round, too", x.axis(7), 299);
     }
 
     private static void wrongArguments(Due due) {

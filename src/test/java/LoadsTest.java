@@ -7,6 +7,8 @@ public final class LoadsTest {
         dropping(due);
         parts(due);
         sums(due);
+        greatestSum(due);
+        heldSteps(due);
         due.end();
     }
 
@@ -24,11 +26,15 @@ public final class LoadsTest {
         due.is("the history", x.count(2), 4);
         x.dropLoad(0);
         due.is("room again", x.load(0, 0, 1), 5);
+        due.is("and full again", x.load(0, 0, 1), StepAxis.LIMIT_REACHED);
+        x.undo();
+        due.is("room by undo", x.load(1, 2, 3), 5);
     }
 
     private static void wrongLoads(Due due) {
         StepAxis x = new StepAxis();
-        int[][] wrong = {{-3001, 0, 1}, {3001, 3001, 1}, {0, 3001, 1}, {1, 0, 1}, {0, 0, 0},
+        int[][] wrong = {{-3001, 0, 1}, {3001, 3001, 1}, {3001, 3000, 1}, {-2999, -3000, 1},
+            {3000, 2999, 1}, {-3000, -3001, 1}, {-3001, -3001, 1}, {3000, 3001, 1}, {0, 3001, 1}, {1, 0, 1}, {0, 0, 0},
             {0, 0, 301}, {0, 0, -1}, {Integer.MIN_VALUE, 0, 1}, {0, Integer.MAX_VALUE, 1},
             {0, 0, Integer.MAX_VALUE}, {0, Integer.MIN_VALUE, 1}};
         for (int[] w : wrong) {
@@ -37,6 +43,63 @@ public final class LoadsTest {
         }
         due.is("no load", x.count(0), 0);
         due.is("no change", x.count(2), 0);
+    }
+
+    /** "The sum of the weights of all loads there": six of the greatest ones. */
+    private static void greatestSum(Due due) {
+        StepAxis x = new StepAxis();
+        for (int i = 0; i < 6; i++) {
+            x.load(i, 10, 300);
+            due.is("the sum of " + (i + 1), x.loadAt(10), 300 * (i + 1));
+        }
+        for (int place = 0; place < 6; place++) {
+            due.is("loadAt(" + place + ")", x.loadAt(place), 300 * (place + 1));
+        }
+        due.is("ahead of all", x.loadAt(-1), 0);
+        due.is("behind all", x.loadAt(11), 0);
+        x = new StepAxis();
+        x.set(3, 300);
+        x.load(0, 0, 150);
+        x.load(0, 0, 150);
+        due.is("a sum that is the pull", x.wouldMiss(1), 0);
+        x.load(0, 0, 1);
+        due.is("a sum that is one more", x.wouldMiss(1), 1);
+    }
+
+    /** "(both included)": the steps that begin at each end of a load are held, the next ones not. */
+    private static void heldSteps(Due due) {
+        int[][] ends = {{4, 6}, {5, 5}, {-6, -4}, {-3000, -2998}, {2998, 3000}};
+        for (int[] e : ends) {
+            StepAxis x = new StepAxis();
+            x.load(e[0], e[1], 101);
+            if (e[0] > 0) {
+                due.is("up to the nearer end", x.wouldMiss(e[0]), 0);
+                due.is("one more", x.wouldMiss(e[0] + 1), 1);
+            } else {
+                due.is("down to the nearer end", x.wouldMiss(e[1]), 0);
+                due.is("one more", x.wouldMiss(e[1] - 1), 1);
+            }
+            for (int place = Math.max(-3000, e[0] - 1); place <= Math.min(3000, e[1] + 1); place++) {
+                due.is("loadAt(" + place + ")", x.loadAt(place),
+                    place < e[0] || place > e[1] ? 0 : 101);
+            }
+        }
+        StepAxis x = new StepAxis();
+        x.move(10);
+        x.load(4, 6, 101);
+        due.is("down to the upper end", x.wouldMiss(6), 0);
+        due.is("one more", x.wouldMiss(5), 1);
+        x.dropLoad(0);
+        x.move(7);
+        x.load(4, 6, 101);
+        due.is("a step that begins one above the upper end", x.move(6), 0);
+        due.is("one that begins at it", x.move(5), 1);
+        x.dropLoad(0);
+        x.move(2);
+        due.is("true", x.axis(1), 3);
+        x.load(4, 6, 101);
+        due.is("a step that begins one below the lower end", x.move(3), 0);
+        due.is("one that begins at it", x.move(4), 1);
     }
 
     private static StepAxis withSix() {

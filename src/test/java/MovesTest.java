@@ -13,6 +13,11 @@ public final class MovesTest {
         greatestIndexes(due);
         wrongMoveOf(due);
         speeds(due);
+        fiveAreKept(due);
+        speedsOfAllKept(due);
+        pullOfNothing(due);
+        placesByTheEnds(due);
+        limitsAtTheirEnds(due);
         due.end();
     }
 
@@ -229,6 +234,120 @@ public final class MovesTest {
         x.set(2, 1);
         x.moveBy(9);
         due.is("greatest index with a top of 1", x.moveOf(0, 4), 1);
+    }
+
+    /** "5 are kept": four, five, six and more. */
+    private static void fiveAreKept(Due due) {
+        StepAxis x = new StepAxis();
+        for (int made = 1; made <= 12; made++) {
+            x.move(made * made);
+            int kept = made < 5 ? made : 5;
+            due.is("kept of " + made, x.count(1), kept);
+            for (int index = 0; index < kept; index++) {
+                int before = made - index - 1;
+                due.is("from", x.moveOf(index, 0), before * before);
+                due.is("to", x.moveOf(index, 1), (before + 1) * (before + 1));
+            }
+            for (int what = 0; what < 5; what++) {
+                due.is("none behind", x.moveOf(kept, what), StepAxis.NOT_FOUND);
+            }
+        }
+        due.is("forget()", x.forget(), 5);
+        for (int index = 0; index < 5; index++) {
+            due.is("forgotten", x.moveOf(index, 1), StepAxis.NOT_FOUND);
+        }
+        x.undo();
+        due.is("the fifth one is back", x.moveOf(4, 1), 64);
+        x.undo();
+        due.is("the one that was dropped for the latest, too", x.moveOf(4, 1), 49);
+    }
+
+    private static void speedsOfAllKept(Due due) {
+        StepAxis x = new StepAxis();
+        x.set(2, 0);
+        for (int made = 1; made <= 6; made++) {
+            x.set(0, 100 + made);
+            x.moveBy(made % 2 == 0 ? -made : made);
+        }
+        for (int index = 0; index < 5; index++) {
+            int made = 6 - index;
+            due.is("speedBits(" + index + ")", x.speedBits(index),
+                Float.floatToIntBits((float) made / (float) (made * (100 + made))));
+        }
+        due.is("speedBits(5)", x.speedBits(5), StepAxis.NOT_FOUND);
+        due.is("speedBits(6)", x.speedBits(6), StepAxis.NOT_FOUND);
+        x.moveBy(1);
+        x.moveBy(0);
+        x.moveBy(-1);
+        due.is("of one step", x.speedBits(0), Float.floatToIntBits(1f / 106f));
+        due.is("of no step", x.speedBits(1), StepAxis.NOT_FOUND);
+        due.is("of one step", x.speedBits(2), Float.floatToIntBits(1f / 106f));
+        x.load(-3000, 3000, 300);
+        x.moveBy(3);
+        due.is("all of them missed", x.moveOf(0, 2), 3);
+        due.is("count all the same", x.speedBits(0), Float.floatToIntBits(3f / 318f));
+    }
+
+    /** No load is not above a pull of nothing; the least load is. */
+    private static void pullOfNothing(Due due) {
+        StepAxis x = new StepAxis();
+        x.set(3, 1);
+        x.set(4, 100);
+        due.is("the pull of the index 1", x.ramp(1, 2), 0);
+        due.is("no load", x.move(100), 0);
+        x.load(50, 50, 1);
+        due.is("the least load, at rest", x.moveBy(-50), 0);
+        due.is("true", x.axis(1), 50);
+        due.is("it is left with the index 0 by one step", x.wouldMiss(49), 0);
+        due.is("and by more", x.wouldMiss(40), 0);
+        x.move(60);
+        due.is("it isn't passed with a greater one", x.move(40), 9);
+        due.is("true", x.axis(1), 49);
+    }
+
+    /** The place to which a move goes, at its greatest and its least and one beyond each. */
+    private static void placesByTheEnds(Due due) {
+        for (int sign = -1; sign <= 1; sign += 2) {
+            StepAxis x = new StepAxis();
+            x.move(sign * 3998);
+            due.is("by 3 beyond the end", x.moveBy(sign * 3), StepAxis.NOT_POSSIBLE);
+            due.is("by as many as there are", x.moveBy(sign * 4000), StepAxis.NOT_POSSIBLE);
+            due.is("by more than there are", x.moveBy(sign * 4001), StepAxis.INVALID_ARGUMENT);
+            due.is("told as before", x.axis(0), sign * 3998);
+            due.is("onto it", x.moveBy(sign * 2), 2);
+            due.is("told", x.axis(0), sign * 4000);
+            due.is("one beyond", x.moveBy(sign), StepAxis.NOT_POSSIBLE);
+            due.is("to one beyond", x.move(sign * 4001), StepAxis.INVALID_ARGUMENT);
+            due.is("by none", x.moveBy(0), 0);
+            due.is("back by all", x.moveBy(sign * -4000), 0);
+            due.is("told", x.axis(0), 0);
+            due.is("true", x.axis(1), sign * -1000);
+            due.is("onto the other end", x.moveBy(sign * -4000), 2000);
+            due.is("told", x.axis(0), sign * -4000);
+            due.is("true", x.axis(1), sign * -3000);
+        }
+    }
+
+    /** Limits as far as they go: the places at them are possible, those one beyond are not. */
+    private static void limitsAtTheirEnds(Due due) {
+        StepAxis x = new StepAxis();
+        x.set(5, 0);
+        x.home();
+        int[][] limits = {{-1000, 1000}, {-2000, 2000}, {0, 0}, {-5, -5}, {5, 5}, {2000, 2000},
+            {-2000, -2000}};
+        for (int[] l : limits) {
+            due.is("limits", x.limits(l[0], l[1]), l[0] <= x.axis(0) && x.axis(0) <= l[1] ? 1 : 0);
+            due.is("below the lower one", x.move(l[0] - 1), StepAxis.NOT_POSSIBLE);
+            due.is("above the upper one", x.move(l[1] + 1), StepAxis.NOT_POSSIBLE);
+            due.is("at the upper one", x.move(l[1]), 0);
+            due.is("by one above", x.moveBy(1), StepAxis.NOT_POSSIBLE);
+            due.is("at the lower one", x.move(l[0]), 0);
+            due.is("by one below", x.moveBy(-1), StepAxis.NOT_POSSIBLE);
+            due.is("by none", x.moveBy(0), 0);
+        }
+        due.is("far below", x.move(-4000), StepAxis.NOT_POSSIBLE);
+        due.is("far above", x.move(4000), StepAxis.NOT_POSSIBLE);
+        due.is("farther", x.move(4001), StepAxis.INVALID_ARGUMENT);
     }
 
     private static void wrongMoveOf(Due due) {

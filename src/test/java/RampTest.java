@@ -9,6 +9,9 @@ public final class RampTest {
         firstRamp(due);
         pulls(due);
         ends(due);
+        leastPull(due);
+        leastAndGreatestIntervals(due);
+        longestRamp(due);
         wrongArguments(due);
         times(due);
         due.end();
@@ -89,6 +92,89 @@ public final class RampTest {
         due.is("the longest ramp", x.top(), 200);
         due.holds("above the least there", x.ramp(200, 0) > 20);
         due.is("none behind", x.ramp(201, 0), StepAxis.NOT_FOUND);
+    }
+
+    /** "at least 0": one above it, 0 itself, and what would be one below it. */
+    private static void leastPull(Due due) {
+        StepAxis x = new StepAxis();
+        x.set(4, 100);
+        int[][] want = {{7, 1}, {6, 0}, {5, 0}, {1, 0}};
+        for (int[] w : want) {
+            x.set(3, w[0]);
+            due.is("pull 0 of " + w[0], x.ramp(0, 2), w[0]);
+            due.is("pull 1 of " + w[0] + ", which loses 6", x.ramp(1, 2), w[1]);
+        }
+        x.set(3, 300);
+        due.is("the greatest pull at rest", x.ramp(0, 2), 300);
+        due.is("and at its top, which loses 87", x.ramp(14, 2), 213);
+    }
+
+    private static void leastAndGreatestIntervals(Due due) {
+        StepAxis x = new StepAxis();
+        x.set(0, 100);
+        x.set(1, 20);
+        due.is("the least first interval", x.ramp(0, 0), 100);
+        due.is("c(1)", x.ramp(1, 0), 60);
+        due.is("c(2) is 60 - 120 / 9", x.ramp(2, 0), 47);
+        due.is("r(2)", x.ramp(2, 1), 3);
+        due.is("the least interval at the top", x.ramp(x.top(), 0), 20);
+        due.holds("none but the top is the least", x.ramp(x.top() - 1, 0) > 20);
+        x.set(1, 99);
+        due.is("one below the first interval", x.top(), 1);
+        due.is("made the least", x.ramp(1, 0), 99);
+        x.set(1, 100);
+        due.is("the first interval itself", x.top(), 0);
+        x.set(1, 101);
+        due.is("one above the first interval", x.top(), 0);
+        due.is("as setting 0 tells", x.ramp(0, 0), 100);
+        x.set(0, 5000);
+        x.set(1, 1000);
+        due.is("the greatest first interval", x.ramp(0, 0), 5000);
+        due.is("its rest", x.ramp(0, 1), 0);
+        due.is("c(1) is 5000 - 10000 / 5", x.ramp(1, 0), 3000);
+        due.is("the greatest least interval", x.ramp(x.top(), 0), 1000);
+    }
+
+    /** The greatest value of setting 2, with a least interval that isn't reached till there. */
+    private static void longestRamp(Due due) {
+        StepAxis x = new StepAxis();
+        x.set(0, 5000);
+        x.set(1, 20);
+        x.set(2, 200);
+        x.set(3, 300);
+        x.set(4, 23);
+        int interval = 5000;
+        int rest = 0;
+        int sum = 5000;
+        for (int n = 1; n <= 200; n++) {
+            int v = 2 * interval + rest;
+            interval -= v / (4 * n + 1);
+            rest = v % (4 * n + 1);
+            sum += interval;
+            due.is("interval " + n, x.ramp(n, 0), interval);
+            due.is("rest " + n, x.ramp(n, 1), rest);
+            due.is("pull " + n, x.ramp(n, 2), 300 - n * 23 / 16);
+            due.is("sum to " + n, x.ramp(n, 3), sum);
+        }
+        due.is("top", x.top(), 200);
+        for (int what = 0; what < 4; what++) {
+            due.is("ramp(201, " + what + ")", x.ramp(201, what), StepAxis.NOT_FOUND);
+        }
+        due.is("timeOf(401)", x.timeOf(401), 2 * sum - interval);
+        due.is("timeOf(402)", x.timeOf(402), 2 * sum);
+        x.move(401);
+        due.is("a move of 401 steps: its time", x.moveOf(0, 3), 2 * sum - interval);
+        due.is("its greatest index", x.moveOf(0, 4), 200);
+        x.move(2);
+        due.is("a move of 399 steps: its greatest index", x.moveOf(0, 4), 199);
+        x.set(4, 24);
+        due.is("the pull is 0 itself there", x.ramp(200, 2), 0);
+        due.is("and 2 at the index ahead", x.ramp(199, 2), 2);
+        x.set(4, 100);
+        due.is("and 0 where it would be far below", x.ramp(200, 2), 0);
+        x.set(2, 199);
+        due.is("one less", x.top(), 199);
+        due.is("none behind", x.ramp(200, 0), StepAxis.NOT_FOUND);
     }
 
     private static void wrongArguments(Due due) {

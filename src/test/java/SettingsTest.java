@@ -34,9 +34,13 @@ public final class SettingsTest {
     private static void wrongSettings(Due due) {
         StepAxis x = new StepAxis();
         String before = Due.picture(x);
-        int[] whats = {-1, 8, 10, Integer.MIN_VALUE, Integer.MAX_VALUE};
+        int[] whats = {-1, 8, 9, 10, 17, Integer.MIN_VALUE, Integer.MAX_VALUE};
+        int[] values = {0, 1, 20, 50, 100, 200, 1000, 5000};
         for (int what : whats) {
-            due.is("set(" + what + ", 100)", x.set(what, 100), StepAxis.INVALID_ARGUMENT);
+            for (int value : values) {
+                due.is("set(" + what + ", " + value + ")", x.set(what, value),
+                    StepAxis.INVALID_ARGUMENT);
+            }
         }
         for (int what = 0; what < 8; what++) {
             due.is("set to the int's least", x.set(what, Integer.MIN_VALUE),
@@ -76,7 +80,8 @@ public final class SettingsTest {
 
     private static void wrongLimits(Due due) {
         StepAxis x = new StepAxis();
-        int[][] wrong = {{-2001, 0}, {2001, 2001}, {0, 2001}, {1, 0}, {-2000, -2001},
+        int[][] wrong = {{-2001, 0}, {2001, 2001}, {0, 2001}, {1, 0}, {-2000, -2001}, {2001, 2000},
+            {2000, 1999}, {-1999, -2000}, {-2001, -2001}, {-2001, 2001}, {2000, 2001},
             {Integer.MIN_VALUE, 0}, {0, Integer.MAX_VALUE}, {0, Integer.MIN_VALUE},
             {Integer.MAX_VALUE, Integer.MAX_VALUE}};
         for (int[] w : wrong) {

@@ -11,6 +11,11 @@ public final class TextTest {
         oneChange(due);
         failedPlay(due);
         longTexts(due);
+        signsBehindTheEnd(due);
+        cutAtTheEnd(due);
+        numbersAtTheirEnds(due);
+        faultsOfTheHomedAxis(due);
+        everyCharacter(due);
         due.end();
     }
 
@@ -198,6 +203,130 @@ public final class TextTest {
         due.holds("those ahead of the fault are not done either", Due.picture(x).equals(before));
         due.is("one state", x.count(2), 1);
         due.is("the text stays", x.count(3), 19);
+    }
+
+    /** What was typed before the text was emptied is no part of a shorter one. */
+    private static void signsBehindTheEnd(Due due) {
+        String[][] texts = {{"g5;", "g5"}, {"g55;", "g5"}, {"z;z;", "z"}, {"s1,50;", "s1,50"},
+            {"s1,50;", "s1,"}, {"s1,50;", "s1"}, {"r-5;", "r-"}, {"h;", "h"}, {"z;h;", "z;h"}};
+        for (String[] t : texts) {
+            StepAxis x = Due.withText(t[0]);
+            due.is("clearText()", x.clearText(), t[0].length());
+            due.is("fault(0) of an emptied text", x.fault(0), StepAxis.NOT_FOUND);
+            due.is("fault(1) of it", x.fault(1), StepAxis.NOT_FOUND);
+            due.is("fault(2) of it", x.fault(2), StepAxis.NOT_FOUND);
+            Due.type(x, t[1]);
+            due.is("length", x.count(3), t[1].length());
+            due.is("position in " + t[1], x.fault(0), t[1].lastIndexOf(';') + 1);
+            due.is("reason in " + t[1], x.fault(1), 1);
+            due.is("cause in " + t[1], x.fault(2), StepAxis.NOT_FOUND);
+            due.is("play()", x.play(), StepAxis.NOT_POSSIBLE);
+            x.clearText();
+            due.is("play() of an emptied text", x.play(), 0);
+        }
+    }
+
+    /** 59 and 60 characters, and commands that the 60th one ends or cuts. */
+    private static void cutAtTheEnd(Due due) {
+        StringBuilder ahead = new StringBuilder();
+        for (int i = 0; i < 25; i++) {
+            ahead.append("z;");
+        }
+        String start = ahead.toString();
+        fine(due, start + "s5,-2900;", 26);
+        fine(due, start + "s05,-2900;", 26);
+        fine(due, start + "r-1234;g0;", 27);
+        fine(due, start + "z;g-4000;", 27);
+        fault(due, start + "r-1234;g01", 57, 1, StepAxis.NOT_FOUND);
+        fault(due, start + "z;z;z;z;hh", 58, 1, StepAxis.NOT_FOUND);
+        fault(due, start + "z;z;z;z;z", 58, 1, StepAxis.NOT_FOUND);
+        fault(due, start + "z;z;z;z;;;", 58, 1, StepAxis.NOT_FOUND);
+        fault(due, start + "z;z;z;g-12", 56, 1, StepAxis.NOT_FOUND);
+        fault(due, start + "s0005,2901", 50, 1, StepAxis.NOT_FOUND);
+        fault(due, start + "s5,-2901;", 50, 2, StepAxis.INVALID_ARGUMENT);
+        fault(due, start + "z;r-4001;z", 52, 2, StepAxis.INVALID_ARGUMENT);
+        StepAxis x = Due.withText(start + "z;z;z;z;zz");
+        due.is("a 61st character", x.type(';'), StepAxis.LIMIT_REACHED);
+        due.is("mends nothing", x.fault(0), 58);
+    }
+
+    /** Each range that a command meets, at its ends and one beyond each. */
+    private static void numbersAtTheirEnds(Due due) {
+        int[] least = {100, 20, 0, 1, 0, -2900, 0, 0};
+        int[] greatest = {5000, 1000, 200, 300, 100, 2900, 50, 200};
+        for (int what = 0; what < 8; what++) {
+            fine(due, "s" + what + "," + least[what] + ";", 1);
+            fine(due, "s" + what + "," + greatest[what] + ";", 1);
+            fault(due, "s" + what + "," + (least[what] - 1) + ";", 0, 2,
+                StepAxis.INVALID_ARGUMENT);
+            fault(due, "s" + what + "," + (greatest[what] + 1) + ";", 0, 2,
+                StepAxis.INVALID_ARGUMENT);
+            fault(due, "s" + what + ",9999;", 0, 2, StepAxis.INVALID_ARGUMENT);
+            fault(due, "s" + what + ",-9999;", 0, 2, StepAxis.INVALID_ARGUMENT);
+            StepAxis x = Due.withText("s000" + what + "," + greatest[what] + ";");
+            x.play();
+            due.is("set by a text", x.count(10 + what), greatest[what]);
+        }
+        fault(due, "g4000;r0;r1;", 9, 2, StepAxis.NOT_POSSIBLE);
+        fault(due, "g-4000;r-0;r-1;", 11, 2, StepAxis.NOT_POSSIBLE);
+        fault(due, "g4000;r4001;", 6, 2, StepAxis.INVALID_ARGUMENT);
+        fault(due, "g4000;r4000;", 6, 2, StepAxis.NOT_POSSIBLE);
+        fine(due, "g4000;r-4000;r-4000;r4000;", 4);
+        StepAxis x = Due.withText("g12;r-0;g-0;r0012;g-0012;r1;");
+        due.is("play()", x.play(), 6);
+        int[] places = {-11, -12, 12, 0, 12};
+        for (int index = 0; index < 5; index++) {
+            due.is("the place of move " + index, x.moveOf(index, 1), places[index]);
+        }
+    }
+
+    /** The limits bind a text's moves once a command ahead of them has homed the axis. */
+    private static void faultsOfTheHomedAxis(Due due) {
+        StepAxis x = new StepAxis();
+        x.set(5, 0);
+        x.limits(-7, 9);
+        String[] texts = {"g10;h;g9;", "h;g9;r0;g-7;", "h;g10;", "h;g-8;", "h;g9;r1;", "h;r-7;r-1;",
+            "h;g4000;", "h;g4001;", "h;r4001;", "g-8;r-1;h;z;r10;"};
+        int[] positions = {-1, -1, 2, 2, 5, 6, 2, 2, 2, 12};
+        for (int i = 0; i < texts.length; i++) {
+            Due.type(x, texts[i]);
+            boolean fine = positions[i] < 0;
+            boolean far = texts[i].contains("4001");
+            due.is("position in " + texts[i], x.fault(0),
+                fine ? StepAxis.NOT_FOUND : positions[i]);
+            due.is("reason in " + texts[i], x.fault(1), fine ? StepAxis.NOT_FOUND : 2);
+            due.is("cause in " + texts[i], x.fault(2), fine ? StepAxis.NOT_FOUND
+                : far ? StepAxis.INVALID_ARGUMENT : StepAxis.NOT_POSSIBLE);
+            x.clearText();
+        }
+        x.limits(1, 9);
+        Due.type(x, "h;r0;");
+        due.is("a move of no steps, beyond the limits", x.fault(0), 2);
+        due.is("its cause", x.fault(2), StepAxis.NOT_POSSIBLE);
+    }
+
+    /** No other character is a command, stands in a number, or stands behind one. */
+    private static void everyCharacter(Due due) {
+        for (int character = 32; character <= 126; character++) {
+            char c = (char) character;
+            StepAxis x = new StepAxis();
+            due.is("type(" + character + ")", x.type(character), 1);
+            x.type(';');
+            due.is("as a command: reason", x.fault(1), c == 'h' || c == 'z' ? StepAxis.NOT_FOUND : 1);
+            boolean digit = c >= '0' && c <= '9';
+            due.is("in a number: reason", Due.withText("g1" + c + "1;").fault(1),
+                digit ? StepAxis.NOT_FOUND : 1);
+            due.is("in a number: position", Due.withText("g1" + c + "1;").fault(0),
+                digit ? StepAxis.NOT_FOUND : c == ';' ? 3 : 0);
+            due.is("ahead of a number: reason", Due.withText("r" + c + "1;").fault(1),
+                digit || c == '-' ? StepAxis.NOT_FOUND : 1);
+            due.is("between two numbers: reason", Due.withText("s1" + c + "50;").fault(1),
+                c == ',' ? StepAxis.NOT_FOUND : 1);
+            due.is("ahead of a value: reason", Due.withText("s5," + c + "1;").fault(1),
+                digit || c == '-' ? StepAxis.NOT_FOUND : 1);
+            due.is("at the end: reason", Due.withText("z" + c).fault(1),
+                c == ';' ? StepAxis.NOT_FOUND : 1);
+        }
     }
 
     private static void longTexts(Due due) {

@@ -5,6 +5,8 @@ public final class UndoTest {
         everyChange(due);
         errorsRecordNothing(due);
         fourStates(due);
+        fourAndFive(due);
+        fiveOfEachChange(due);
         behindUndo(due);
         theTextStays(due);
         theRampFollows(due);
@@ -89,6 +91,47 @@ public final class UndoTest {
         due.is("the oldest ones are dropped", x.undo(), StepAxis.NOT_POSSIBLE);
         due.is("told", x.axis(0), 3);
         due.is("steps", x.axis(5), 3);
+    }
+
+    /** Four changes can all be undone; of five, the first one can't. */
+    private static void fourAndFive(Due due) {
+        for (int changes = 1; changes <= 6; changes++) {
+            StepAxis x = new StepAxis();
+            String[] pictures = new String[changes];
+            for (int i = 0; i < changes; i++) {
+                pictures[i] = Due.picture(x);
+                x.limits(-i, i);
+            }
+            for (int left = Math.min(changes, 4) - 1; left >= 0; left--) {
+                due.is("undo() of " + changes, x.undo(), left);
+                due.holds("as it was", Due.picture(x).equals(
+                    pictures[changes - Math.min(changes, 4) + left]));
+            }
+            due.is("undo() of none", x.undo(), StepAxis.NOT_POSSIBLE);
+            due.holds("stays as it was", Due.picture(x).equals(
+                pictures[changes - Math.min(changes, 4)]));
+        }
+    }
+
+    /** Each change, five times over, drops what was recorded ahead of it. */
+    private static void fiveOfEachChange(Due due) {
+        for (int which = 0; which <= 12; which++) {
+            if (which == 3) {
+                continue;
+            }
+            StepAxis x = new StepAxis();
+            x.set(5, -3);
+            x.limits(-500, 500);
+            for (int made = 1; made <= 5; made++) {
+                due.holds("change " + which, change(x, which) > -1000001);
+                due.is("states", x.count(2), Math.min(made + 2, 4));
+            }
+            for (int left = 3; left >= 0; left--) {
+                due.is("undo()", x.undo(), left);
+            }
+            due.is("undo()", x.undo(), StepAxis.NOT_POSSIBLE);
+            due.is("a change ahead of those stays", x.count(15), -3);
+        }
     }
 
     private static void behindUndo(Due due) {

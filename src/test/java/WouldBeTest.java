@@ -8,6 +8,7 @@ public final class WouldBeTest {
         hardEnds(due);
         safeValues(due);
         safeSteps(due);
+        safeAtTheEnds(due);
         firstSteps(due);
         theLoadWhereAStepGoes(due);
         theRampAsItIs(due);
@@ -80,6 +81,9 @@ public final class WouldBeTest {
         all(due, x, 3001, 1, StepAxis.NOT_FOUND, 3000);
         all(due, x, -3002, 2, StepAxis.NOT_FOUND, -3000);
         all(due, x, 4000, 1000, StepAxis.NOT_FOUND, 3000);
+        all(due, x, -3000, 0, 60, StepAxis.NOT_FOUND);
+        all(due, x, -3001, 1, StepAxis.NOT_FOUND, -3000);
+        all(due, x, -4000, 1000, StepAxis.NOT_FOUND, -3000);
     }
 
     /** A loss of pull of 100 makes the pulls 100, 94, 88, 82, 75, 69. */
@@ -177,6 +181,50 @@ public final class WouldBeTest {
         x.set(5, 0);
         x.set(4, 0);
         due.is("home", x.home(), 5 + 2 + 6 + 4);
+        x = new StepAxis();
+        x.set(4, 0);
+        due.is("a longer ramp that loses no pull", x.ramp(2, 2), 100);
+        x.set(4, 100);
+        x.set(2, 1);
+        x.load(-3000, 3000, 95);
+        due.is("nothing of it is left behind the top", x.safe(100), 0);
+        due.is("ramp", x.ramp(2, 2), StepAxis.NOT_FOUND);
+    }
+
+    /** The least value, the greatest one, and what "wherever the top is" says of those between. */
+    private static void safeAtTheEnds(Due due) {
+        StepAxis x = new StepAxis();
+        x.set(4, 100);
+        x.load(-3000, 3000, 100);
+        due.is("0 alone", x.safe(3), 0);
+        x.set(2, 0);
+        due.is("0 as it is", x.safe(3), 0);
+        x.load(0, 0, 1);
+        due.is("0 would miss, too", x.safe(3), StepAxis.NOT_FOUND);
+        due.is("no step", x.safe(0), 0);
+        x = new StepAxis();
+        int[] values = {200, 199, 15, 14, 13, 1, 0};
+        for (int value : values) {
+            x.set(2, value);
+            due.is("safe without loads", x.safe(100), value);
+            due.is("safe of no steps", x.safe(0), value);
+        }
+        x.set(2, 200);
+        x.set(4, 100);
+        x.load(-3000, 3000, 13);
+        due.is("the pull at the top itself", x.safe(100), 200);
+        x.load(-3000, 3000, 1);
+        due.is("one more", x.safe(100), 13);
+        x.set(0, 5000);
+        x.set(1, 20);
+        x.set(3, 300);
+        x.set(4, 24);
+        x.dropLoad(0);
+        due.is("the longest ramp", x.top(), 200);
+        due.is("one at a pull of nothing", x.safe(401), 199);
+        due.is("which a shorter move doesn't reach", x.safe(400), 200);
+        x.dropLoad(0);
+        due.is("none at a pull of nothing", x.safe(401), 200);
     }
 
     private static void safeSteps(Due due) {
